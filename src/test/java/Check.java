@@ -5,8 +5,27 @@ final class Check {
     }
 
     private static int wrong = 0;
+    private static int sentences = 0;
 
     private Check() {
+    }
+
+    /** Runs the one test that stands for a sentence of the document, or for a part of one. */
+    static void sentence(String words, Call test) {
+        int before = wrong;
+        sentences++;
+        try {
+            test.run();
+        } catch (RuntimeException e) {
+            fail("a call that is due to answer threw " + e + " " + java.util.Arrays.toString(e.getStackTrace()));
+        }
+        if (wrong > before) {
+            System.out.println("    so this does not hold: " + words);
+        }
+    }
+
+    static void promise(int number, String words, Call test) {
+        sentence("promise " + number + ": " + words, test);
     }
 
     static void same(String what, long got, long due) {
@@ -49,6 +68,9 @@ final class Check {
     }
 
     static void end() {
+        if (sentences > 0) {
+            System.out.println(sentences + " sentences, or parts of one, tested");
+        }
         System.out.println(wrong == 0 ? "all answers are as due" : wrong + " answers are not as due");
         if (wrong != 0) {
             System.exit(1);
