@@ -54,6 +54,11 @@ public final class ChangeEdgeTest {
         x.ask(0);
         x.deliver(0);
         Shop.letterIs("book 2 is active", x, 0, 2, 0, 2, 3);
+        x.deliver(0);
+        Shop.makeReady(x, 0);
+        x.ask(0);
+        x.deliver(0);
+        Shop.letterIs("book 2 is active, though the till is ready for book 3", x, 0, 2, 0, 2, 4);
     }
 
     private static void noGrantOfTheActiveBookInAChange() {
