@@ -52,11 +52,12 @@ public final class LanguageTest {
         for (Field f : owner.getDeclaredFields()) {
             boolean constant = Modifier.isStatic(f.getModifiers());
             held += constant ? 0 : 1;
-            if (constant && !(Modifier.isFinal(f.getModifiers()) && f.getType().isPrimitive())) {
+            boolean plain = f.getType().isPrimitive() || f.getType() == String.class;
+            if (constant && !(Modifier.isFinal(f.getModifiers()) && plain)) {
                 Check.fail("rule 5: " + f);
             }
             Class<?> type = f.getType().isArray() ? f.getType().getComponentType() : f.getType();
-            if (!type.isPrimitive() && type.getDeclaringClass() != PriceHouse.class) {
+            if (!plain && !type.isPrimitive() && type.getDeclaringClass() != PriceHouse.class) {
                 Check.fail("rule 3: " + f);
             }
         }
