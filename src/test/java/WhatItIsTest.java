@@ -121,7 +121,7 @@ public final class WhatItIsTest {
         Check.same("the newer book was reported", reported ? 1 : 0, 1);
     }
 
-    /** Every run of DEPTH calls at one till, its letters and the desk. */
+    /** Every run of DEPTH out of the calls that take() has, at one till, its letters and the desk. */
     private static void noOlderBookInAnyShortRun() {
         goOn(false, new int[DEPTH], 0);
         // Letters of an asking that was given up need longer runs to do harm, so these begin with them.
